@@ -9,6 +9,9 @@ public final class RecordClaims {
     /** The document's Long.MIN_VALUE, for answers of which NONE could be one. */
     private static final long NOTHING = 1L << 63;
 
+    /** What waits() answers of a TRADE that is not there. */
+    private static final int NO_TRADE = -2;
+
     private static final int HOLDERS = 10;
     private static final int PAPERS = 5;
     private static final int TRADES = 60;
@@ -24,6 +27,8 @@ public final class RecordClaims {
     private static final int MOST_CHOSEN = 999999999;
     private static final int MOST_DAYS = 99;
     private static final int MOST_WORTH = 99999;
+    /** Far above what Euclid's way takes for numbers such as stand below (18 at most). */
+    private static final int MOST_STEPS = 1000;
 
     private static final int TAPE_BYTES = 700;
     private static final int FEED_BYTES = 20;
@@ -31,15 +36,36 @@ public final class RecordClaims {
     private static final int MOST_DIGITS = 9;
     /** Five bits hold a letter, so that six letters fit an int. */
     private static final int LETTER_BITS = 5;
-    /** Each word ends with a blank: that is where isKeyword looks. */
-    private static final String KEYWORDS = "holder paper has trade within money gift rights turn into for at "
-            + "worth until plus cash ex record pay choose days ";
+    /** In the order of the W_ numbers; each word ends with a blank: keywordOf looks there. */
+    private static final String KEYWORDS = "holder paper has trade within money gift rights turn into for at worth until plus cash ex record pay choose days ";
+    private static final int W_HOLDER = 0;
+    private static final int W_PAPER = 1;
+    private static final int W_HAS = 2;
+    private static final int W_TRADE = 3;
+    private static final int W_WITHIN = 4;
+    private static final int W_MONEY = 5;
+    private static final int W_GIFT = 6;
+    private static final int W_RIGHTS = 7;
+    private static final int W_TURN = 8;
+    private static final int W_INTO = 9;
+    private static final int W_FOR = 10;
+    private static final int W_AT = 11;
+    private static final int W_WORTH = 12;
+    private static final int W_UNTIL = 13;
+    private static final int W_PLUS = 14;
+    private static final int W_CASH = 15;
+    private static final int W_EX = 16;
+    private static final int W_RECORD = 17;
+    private static final int W_PAY = 18;
+    private static final int W_CHOOSE = 19;
+    private static final int W_DAYS = 20;
 
     private static final int AT_END = 0;
-    private static final int AT_WORD = 1;
-    private static final int AT_NUMBER = 2;
-    private static final int AT_STOP = 3;
-    private static final int AT_OTHER = 4;
+    private static final int AT_KEYWORD = 1;
+    private static final int AT_NAME = 2;
+    private static final int AT_NUMBER = 3;
+    private static final int AT_STOP = 4;
+    private static final int AT_OTHER = 5;
 
     private static final int FAULT_STANDS = 1;
     private static final int FAULT_NAME = 2;
@@ -74,7 +100,7 @@ public final class RecordClaims {
     private final Deed deed = new Deed();
     private final State now = new State();
     private final History history = new History();
-    private final Statement shown = new Statement();
+    private final Shown shown = new Shown();
     private final Netting netting = new Netting();
 
     public RecordClaims() {
@@ -134,7 +160,7 @@ public final class RecordClaims {
     private int doWhatWasRead(int count) {
         int done = 0;
         history.spare().copyFrom(now);
-        tape.startReading();
+        tape.startAgain();
         while (done < count) {
             deed.readFrom(tape, book);
             if (now.perform(deed) == NONE) {
@@ -309,22 +335,20 @@ public final class RecordClaims {
     private State stateAhead(int n) {
         State later = history.spare();
         later.copyFrom(now);
-        for (int i = 0; i < n && later.day < LAST_DAY; i++) {
-            later.passDay();
-        }
+        later.passDays(Math.min(n, LAST_DAY - later.day));
         return later;
     }
 
     public int waits(int trade) {
         if (!now.trades.isThere(trade)) {
-            return -2;
+            return NO_TRADE;
         }
         if (now.trades.state[trade] != OPEN) {
             return NONE;
         }
         State later = stateAhead(0);
         for (int i = 1; i <= MOST_DAYS && later.day < LAST_DAY; i++) {
-            later.passDay();
+            later.passDays(1);
             if (later.trades.state[trade] != OPEN) {
                 return i;
             }
@@ -371,7 +395,7 @@ public final class RecordClaims {
         if (!now.isHolder(holder)) {
             return NONE;
         }
-        shown.state(now, book, holder);
+        shown.tell(now, book, holder);
         return shown.length;
     }
 
@@ -423,14 +447,16 @@ public final class RecordClaims {
         return n >= least && n <= most;
     }
 
-    /** THE TAPE, the token that stands next on it, and the FAULT met in reading. */
+    /** THE TAPE, the tokens that stand on it, and the FAULT met in reading them. */
     private static final class Tape {
         final byte[] bytes = new byte[TAPE_BYTES];
         int length;
+        /** The end is a token too, so that there is one more than there are bytes. */
+        final int[] kinds = new int[TAPE_BYTES + 1];
+        final int[] places = new int[TAPE_BYTES + 1];
+        final int[] values = new int[TAPE_BYTES + 1];
+        /** The token that stands next. */
         int at;
-        int place;
-        int kind;
-        int value;
         int fault;
         int faultPlace = NONE;
 
@@ -444,177 +470,196 @@ public final class RecordClaims {
         }
 
         void startReading() {
+            scanAll();
+            startAgain();
+        }
+
+        void startAgain() {
             fault = 0;
             faultPlace = NONE;
             at = 0;
-            advance();
         }
 
-        boolean goesOn() {
-            return fault == 0 && kind != AT_END;
-        }
-
-        /** Goes to the next token: what kind it is, its place and value (a WORD's code, a NUMBER). */
-        void advance() {
-            while (at < length && (bytes[at] == 32 || bytes[at] == 10)) {
-                at++;
+        private void scanAll() {
+            int token = 0;
+            int place = 0;
+            while (place < length && token < TAPE_BYTES) {
+                if (bytes[place] == 32 || bytes[place] == 10) {
+                    place++;
+                } else {
+                    place = scanToken(token, place);
+                    token++;
+                }
             }
-            place = at;
-            value = 0;
-            if (at >= length) {
-                kind = AT_END;
-            } else if (isLetter(bytes[at])) {
-                scanWord();
-            } else if (isDigit(bytes[at])) {
-                scanNumber();
+            kinds[token] = AT_END;
+            places[token] = length;
+        }
+
+        /** Where the token ends that begins at this place. */
+        private int scanToken(int token, int place) {
+            places[token] = place;
+            if (isLetter(bytes[place])) {
+                return scanWord(token, place);
+            }
+            if (isDigit(bytes[place])) {
+                return scanNumber(token, place);
+            }
+            kinds[token] = bytes[place] == ';' ? AT_STOP : AT_OTHER;
+            return place + 1;
+        }
+
+        private int scanWord(int token, int from) {
+            int code = 0;
+            int place = from;
+            while (place < length && isLetter(bytes[place])) {
+                code = withLetter(code, bytes[place]);
+                place++;
+            }
+            int keyword = keywordOf(code);
+            if (place - from > MOST_LETTERS) {
+                kinds[token] = AT_OTHER;
+            } else if (keyword != NONE) {
+                kinds[token] = AT_KEYWORD;
+                values[token] = keyword;
             } else {
-                kind = bytes[at] == ';' ? AT_STOP : AT_OTHER;
-                at++;
+                kinds[token] = AT_NAME;
+                values[token] = code;
             }
+            return place;
         }
 
-        private void scanWord() {
-            while (at < length && isLetter(bytes[at])) {
-                value = withLetter(value, bytes[at]);
-                at++;
+        private int scanNumber(int token, int from) {
+            int number = 0;
+            int place = from;
+            while (place < length && isDigit(bytes[place])) {
+                number = number * 10 + bytes[place] - '0';
+                place++;
             }
-            kind = at - place > MOST_LETTERS ? AT_OTHER : AT_WORD;
+            kinds[token] = place - from > MOST_DIGITS ? AT_OTHER : AT_NUMBER;
+            values[token] = number;
+            return place;
         }
 
-        private void scanNumber() {
-            while (at < length && isDigit(bytes[at])) {
-                value = value * 10 + bytes[at] - '0';
-                at++;
-            }
-            kind = at - place > MOST_DIGITS ? AT_OTHER : AT_NUMBER;
-        }
-
-        static boolean isLetter(int c) {
+        private static boolean isLetter(int c) {
             return c >= 'a' && c <= 'z';
         }
 
-        static boolean isDigit(int c) {
+        private static boolean isDigit(int c) {
             return c >= '0' && c <= '9';
         }
 
-        static int withLetter(int code, int letter) {
+        private static int withLetter(int code, int letter) {
             return code << LETTER_BITS | letter - 'a' + 1;
         }
 
-        static int codeOf(String word) {
-            int code = 0;
-            for (int i = 0; i < word.length(); i++) {
-                code = withLetter(code, word.charAt(i));
-            }
-            return code;
-        }
-
-        static boolean isKeyword(int code) {
+        private static int keywordOf(int code) {
+            int number = 0;
             int each = 0;
             for (int i = 0; i < KEYWORDS.length(); i++) {
                 char c = KEYWORDS.charAt(i);
                 if (c != ' ') {
                     each = withLetter(each, c);
                 } else if (each == code) {
-                    return true;
+                    return number;
                 } else {
+                    number++;
                     each = 0;
                 }
             }
-            return false;
+            return NONE;
+        }
+
+        boolean goesOn() {
+            return fault == 0 && kinds[at] != AT_END;
         }
 
         /** Only the first FAULT counts: nothing is taken behind it. */
         void fail(int which) {
             if (fault == 0) {
                 fault = which;
-                faultPlace = place;
+                faultPlace = places[at];
             }
         }
 
-        boolean isAtWord(String word) {
-            return kind == AT_WORD && value == codeOf(word);
-        }
-
-        boolean isAtName() {
-            return kind == AT_WORD && !isKeyword(value);
+        boolean isAtWord(int keyword) {
+            return kinds[at] == AT_KEYWORD && values[at] == keyword;
         }
 
         /** Goes on behind the word if it stands here. */
-        boolean passesWord(String word) {
-            if (fault != 0 || !isAtWord(word)) {
+        boolean passesWord(int keyword) {
+            if (fault != 0 || !isAtWord(keyword)) {
                 return false;
             }
-            advance();
+            at++;
             return true;
         }
 
-        void takeWord(String word) {
-            if (!passesWord(word)) {
+        void takeWord(int keyword) {
+            if (!isAtWord(keyword)) {
                 fail(FAULT_STANDS);
+            }
+            if (fault == 0) {
+                at++;
             }
         }
 
         void takeStop() {
-            if (kind != AT_STOP) {
+            if (kinds[at] != AT_STOP) {
                 fail(FAULT_STANDS);
             }
             if (fault == 0) {
-                advance();
+                at++;
             }
         }
 
-        int takeNumber(int most) {
-            if (kind != AT_NUMBER) {
+        int takeNumber() {
+            if (kinds[at] != AT_NUMBER) {
                 fail(FAULT_STANDS);
-            } else if (value > most) {
-                fail(FAULT_NUMBER);
             }
             return takeValue();
         }
 
+        void failBeyond(int most) {
+            if (kinds[at] == AT_NUMBER && values[at] > most) {
+                fail(FAULT_NUMBER);
+            }
+        }
+
         /** The place among these of the NAME that stands here. */
         int takeKnown(int[] names, int count) {
-            int found = NONE;
-            if (!isAtName()) {
+            int found = indexOf(names, count, values[at]);
+            if (kinds[at] != AT_NAME) {
                 fail(FAULT_STANDS);
-            } else {
-                found = indexOf(names, count, value);
-                if (found == NONE) {
-                    fail(FAULT_NAME);
-                }
+            } else if (found == NONE) {
+                fail(FAULT_NAME);
             }
             return takeValue() == NONE ? NONE : found;
         }
 
-        int takeNew(boolean isThere) {
-            if (!isAtName()) {
+        /** The code of the NAME that stands here, which these must not have. */
+        int takeNew(Book names) {
+            if (kinds[at] != AT_NAME) {
                 fail(FAULT_STANDS);
-            } else if (isThere) {
+            } else if (names.hasName(values[at])) {
                 fail(FAULT_NAME);
             }
             return takeValue();
         }
 
+        /** Only behind a look at the token's kind: the end is never passed. */
         private int takeValue() {
             if (fault != 0) {
                 return NONE;
             }
-            int taken = value;
-            advance();
+            int taken = values[at];
+            at++;
             return taken;
         }
 
         /** The code of the NAME that stands alone; NONE if none does. It leaves the FAULT as it is. */
         int nameAlone() {
-            at = 0;
-            advance();
-            if (!isAtName()) {
-                return NONE;
-            }
-            int name = value;
-            advance();
-            return kind == AT_END ? name : NONE;
+            scanAll();
+            return kinds[0] == AT_NAME && kinds[1] == AT_END ? values[0] : NONE;
         }
 
         static int indexOf(int[] names, int count, int name) {
@@ -668,12 +713,12 @@ public final class RecordClaims {
         }
 
         private void readLine(Tape tape) {
-            if (tape.isAtWord("holder")) {
+            if (tape.isAtWord(W_HOLDER)) {
                 readHolder(tape);
-            } else if (tape.isAtWord("paper")) {
+            } else if (tape.isAtWord(W_PAPER)) {
                 readPaper(tape);
             } else {
-                tape.takeWord("has");
+                tape.takeWord(W_HAS);
                 readShares(tape);
             }
             tape.takeStop();
@@ -683,8 +728,8 @@ public final class RecordClaims {
             if (holders >= HOLDERS) {
                 tape.fail(FAULT_TOO_MANY);
             }
-            tape.takeWord("holder");
-            int name = tape.takeNew(isThere(tape.value));
+            tape.takeWord(W_HOLDER);
+            int name = tape.takeNew(this);
             if (name != NONE && holders < HOLDERS) {
                 holderNames[holders] = name;
                 holders++;
@@ -695,29 +740,33 @@ public final class RecordClaims {
             if (papers >= PAPERS) {
                 tape.fail(FAULT_TOO_MANY);
             }
-            tape.takeWord("paper");
-            int name = tape.takeNew(isThere(tape.value));
+            tape.takeWord(W_PAPER);
+            int name = tape.takeNew(this);
             if (name != NONE && papers < PAPERS) {
                 paperNames[papers] = name;
                 papers++;
             }
         }
 
-        private boolean isThere(int name) {
+        boolean hasName(int name) {
             return holderNamed(name) != NONE || paperNamed(name) != NONE;
         }
 
         private void readShares(Tape tape) {
             int holder = takeHolder(tape);
             int paper = takePaper(tape);
-            int count = tape.takeNumber(MOST_SHARES);
+            tape.failBeyond(MOST_SHARES);
+            int count = tape.takeNumber();
             if (holder != NONE && paper != NONE && count != NONE) {
                 shares[holder * PAPERS + paper] = count;
             }
         }
     }
 
-    /** One deed, as a call or a text tells it. What its kind does not need is 0 or NONE. */
+    /**
+     * One deed, as a call or a text tells it. Of texts no N is a FAULT by its
+     * size: one that can't be ends the doing, not the reading.
+     */
     private static final class Deed {
         int kind;
         int paper;
@@ -743,7 +792,7 @@ public final class RecordClaims {
         int sell;
         int days;
 
-        /** MONEY is for each one of the SHARES: 0 for 1, so that no SHARES and no parts come of it. */
+        /** 0 for 1 until a ratio is told, so that no SHARES and no parts come of MONEY. */
         void begin(int newKind, int itsPaper) {
             kind = newKind;
             paper = itsPaper;
@@ -772,22 +821,22 @@ public final class RecordClaims {
         }
 
         void readFrom(Tape tape, Book names) {
-            if (tape.passesWord("trade")) {
+            if (tape.passesWord(W_TRADE)) {
                 readTrade(tape, names);
-            } else if (tape.passesWord("money")) {
+            } else if (tape.passesWord(W_MONEY)) {
                 readMoney(tape, names);
-            } else if (tape.passesWord("gift")) {
+            } else if (tape.passesWord(W_GIFT)) {
                 readGift(tape, names);
-            } else if (tape.passesWord("rights")) {
+            } else if (tape.passesWord(W_RIGHTS)) {
                 readRights(tape, names);
-            } else if (tape.passesWord("turn")) {
+            } else if (tape.passesWord(W_TURN)) {
                 readTurn(tape, names);
-            } else if (tape.passesWord("choose")) {
+            } else if (tape.passesWord(W_CHOOSE)) {
                 readChoice(tape, names);
             } else {
-                tape.takeWord("days");
+                tape.takeWord(W_DAYS);
                 begin(PASSING, NONE);
-                days = takeAny(tape);
+                days = tape.takeNumber();
             }
             tape.takeStop();
         }
@@ -797,72 +846,67 @@ public final class RecordClaims {
             holder = names.takeHolder(tape);
             seller = names.takeHolder(tape);
             paper = names.takePaper(tape);
-            shares = takeAny(tape);
-            amount = takeAny(tape);
-            within = tape.passesWord("within") ? takeAny(tape) : USUAL_WITHIN;
+            shares = tape.takeNumber();
+            amount = tape.takeNumber();
+            within = tape.passesWord(W_WITHIN) ? tape.takeNumber() : USUAL_WITHIN;
         }
 
         private void readMoney(Tape tape, Book names) {
             begin(MONEY, names.takePaper(tape));
-            c = takeAny(tape);
+            c = tape.takeNumber();
             readWhen(tape);
         }
 
         private void readGift(Tape tape, Book names) {
             begin(GIFT, names.takePaper(tape));
             readRatio(tape);
-            cash = takeBehind(tape, "cash");
+            cash = takeBehind(tape, W_CASH);
             readWhen(tape);
         }
 
         private void readRights(Tape tape, Book names) {
             begin(RIGHTS, names.takePaper(tape));
             readRatio(tape);
-            c = takeBehind(tape, "at");
-            cash = takeBehind(tape, "worth");
-            until = takeBehind(tape, "until");
+            c = takeBehind(tape, W_AT);
+            cash = takeBehind(tape, W_WORTH);
+            until = takeBehind(tape, W_UNTIL);
             readWhen(tape);
         }
 
         private void readTurn(Tape tape, Book names) {
             begin(TURN, names.takePaper(tape));
-            tape.takeWord("into");
+            tape.takeWord(W_INTO);
             into = names.takePaper(tape);
             readRatio(tape);
-            c = takeBehind(tape, "plus");
-            cash = takeBehind(tape, "cash");
-            record = takeBehind(tape, "record");
+            c = takeBehind(tape, W_PLUS);
+            cash = takeBehind(tape, W_CASH);
+            record = takeBehind(tape, W_RECORD);
             ex = record;
             pay = record;
         }
 
         private void readChoice(Tape tape, Book names) {
             begin(CHOICE, NONE);
-            event = takeAny(tape);
+            event = tape.takeNumber();
             holder = names.takeHolder(tape);
-            take = takeAny(tape);
-            sell = takeAny(tape);
+            take = tape.takeNumber();
+            sell = tape.takeNumber();
         }
 
         private void readRatio(Tape tape) {
-            a = takeAny(tape);
-            b = takeBehind(tape, "for");
+            a = tape.takeNumber();
+            b = takeBehind(tape, W_FOR);
         }
 
         private void readWhen(Tape tape) {
-            ex = takeBehind(tape, "ex");
-            record = takeBehind(tape, "record");
-            pay = takeBehind(tape, "pay");
+            ex = takeBehind(tape, W_EX);
+            record = takeBehind(tape, W_RECORD);
+            pay = takeBehind(tape, W_PAY);
         }
 
-        private static int takeBehind(Tape tape, String word) {
+        private static int takeBehind(Tape tape, int word) {
             tape.takeWord(word);
-            return takeAny(tape);
-        }
-
-        /** Of DEEDS no N is a FAULT by its size: one that can't be ends the doing, not the reading. */
-        private static int takeAny(Tape tape) {
-            return tape.takeNumber(MOST_CHOSEN);
+            return tape.takeNumber();
         }
     }
 
@@ -1149,7 +1193,7 @@ public final class RecordClaims {
         private static long commonDivisor(long m, long n) {
             long x = m;
             long y = n;
-            while (y > 0) {
+            for (int i = 0; i < MOST_STEPS && y > 0; i++) {
                 long rest = x % y;
                 x = y;
                 y = rest;
@@ -1291,7 +1335,7 @@ public final class RecordClaims {
                 case CHOICE:
                     return putChoice(deed);
                 case PASSING:
-                    return passDays(deed.days);
+                    return daysCanPass(deed.days) ? passDays(deed.days) : NONE;
                 default:
                     return addEvent(deed);
             }
@@ -1315,14 +1359,8 @@ public final class RecordClaims {
             return 0;
         }
 
-        private int passDays(int n) {
-            if (!isWithin(n, 1, MOST_DAYS) || day + n > LAST_DAY) {
-                return NONE;
-            }
-            for (int i = 0; i < n; i++) {
-                passDay();
-            }
-            return day;
+        private boolean daysCanPass(int n) {
+            return isWithin(n, 1, MOST_DAYS) && day + n <= LAST_DAY;
         }
 
         private int addEvent(Deed deed) {
@@ -1359,12 +1397,16 @@ public final class RecordClaims {
             return isInOrder && (!hasUntil || isWithin(deed.until, deed.record, deed.pay));
         }
 
-        void passDay() {
-            day++;
-            settleTrades();
-            writeEvents();
-            payEvents();
-            payWaiting();
+        /** Which DAY it is then. */
+        int passDays(int n) {
+            for (int i = 0; i < n; i++) {
+                day++;
+                settleTrades();
+                writeEvents();
+                payEvents();
+                payWaiting();
+            }
+            return day;
         }
 
         private void settleTrades() {
@@ -1720,13 +1762,13 @@ public final class RecordClaims {
     }
 
     /** The SHOWN. */
-    private static final class Statement {
+    private static final class Shown {
         /** Far above six letters, and of five PAPERS each two blanks, nineteen digits, six letters. */
         private static final int MOST_BYTES = 300;
         final byte[] bytes = new byte[MOST_BYTES];
         int length;
 
-        void state(State state, Book names, int holder) {
+        void tell(State state, Book names, int holder) {
             length = 0;
             addName(names.holderNames[holder]);
             addByte(':');
@@ -1764,15 +1806,19 @@ public final class RecordClaims {
             if (n < 0) {
                 addByte('-');
             }
-            long size = Math.abs(n);
-            long unit = 1;
-            while (unit < 1000000000000000000L && size / unit >= 10) {
-                unit *= 10;
+            long rest = Math.abs(n);
+            int digits = 1;
+            for (long more = rest / 10; more > 0 && digits < MOST_BYTES; more /= 10) {
+                digits++;
             }
-            while (unit > 0) {
-                addByte((int) ('0' + size / unit % 10));
-                unit /= 10;
+            if (length + digits > MOST_BYTES) {
+                return;
             }
+            for (int i = digits - 1; i >= 0; i--) {
+                bytes[length + i] = (byte) ('0' + rest % 10);
+                rest /= 10;
+            }
+            length += digits;
         }
     }
 }
