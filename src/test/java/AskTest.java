@@ -123,6 +123,11 @@ public final class AskTest {
         Check.due("purse", x.purseAhead(0, 99), 45);
         x.days(9);
         Check.due("none left", x.ahead(0, 0, 50), 362);
+        x.trade(1, 0, 0, 1, 5, 1);
+        Check.due("DUE beyond", x.ahead(0, 0, 99), 362);
+        Check.due("DUE beyond", x.purseAhead(0, 99), 45);
+        Check.due("OPEN all the same", x.look(5), 1);
+        Check.due("not beyond its DAY", x.look(6), 0);
     }
 
     private static void waits() {

@@ -53,6 +53,9 @@ public final class ModelTest {
         text(aBook(2 + any(4), 2 + any(2)), true);
         int calls = 40 + any(120);
         int events = 0;
+        for (int i = any(8) == 0 ? 10 : 0; i > 0; i--) {
+            due("days(99)", x.days(99), m.deed("days", 99));
+        }
         for (int i = 0; i < calls && !Check.isWrong(); i++) {
             int kind = any(40);
             if (kind < 12) {

@@ -313,6 +313,19 @@ public final class TextTest {
             Check.due("undo", x.undo(), 0);
             Check.due("day", x.look(4), 0);
         }
+        // as many tokens as there are bytes
+        for (String each : new String[] {";", "1a", "a1", ";1"}) {
+            RecordClaims y = Check.with(THREE);
+            StringBuilder full = new StringBuilder();
+            while (full.length() < 700) {
+                full.append(each);
+            }
+            Check.due("book of 700 tokens", Check.book(y, full.toString()), -1);
+            Check.due("its place", y.fault(1), 0);
+            Check.due("deeds of 700 tokens", Check.deeds(y, full.toString()), -1);
+            Check.due("its place", y.fault(1), 0);
+            Check.due("named of 700 tokens", named(y, full.toString(), 0), -1);
+        }
         // a long tape: 700 bytes of the shortest deed
         RecordClaims x = Check.with(THREE);
         StringBuilder text = new StringBuilder();
