@@ -1,3 +1,5 @@
+import java.util.Arrays;
+
 /** What the tests share: answers compared, and texts put on THE TAPE. */
 final class Check {
     private static int wrong = 0;
@@ -20,8 +22,17 @@ final class Check {
         looked++;
         if (!got.equals(want)) {
             wrong++;
-            System.out.println(what + ": answered '" + got + "', due is '" + want + "'");
+            if (wrong <= 50) {
+                int at = Arrays.mismatch(got.toCharArray(), want.toCharArray());
+                System.out.println(what + ": answered '" + about(got, at) + "', due is '" + about(want, at) + "'");
+            }
         }
+    }
+
+    /** A long text is told by the bytes about the first that is another. */
+    private static String about(String text, int at) {
+        int from = text.length() <= 300 ? 0 : Math.max(0, at - 60);
+        return (from > 0 ? ".. " : "") + text.substring(Math.min(from, text.length()), Math.min(text.length(), from + 300));
     }
 
     static void yes(String what, boolean holds) {
