@@ -42,7 +42,9 @@ public final class DeedEdgeTest {
         turnsWithoutAPart();
         turnsTrades();
         turnsThereAndBack();
+        turnsTradesOfMany();
         turnsDropLaterOnes();
+        dropsWhateverItsPay();
         toldBehindATurn();
         paysWithAsMany();
         paysNothing();
@@ -50,6 +52,10 @@ public final class DeedEdgeTest {
         triesOnceADay();
         rightsAtMost();
         rightsOfClaims();
+        wantingOnes();
+        ofManyWanting();
+        undoesAllThereCanBe();
+        fullHouse();
         choosesUntil();
         undoesSix();
         undoesNothingElse();
@@ -484,6 +490,27 @@ public final class DeedEdgeTest {
         Check.due("nothing to turn back", x.has(0, 1), 4);
     }
 
+    /** "the AMOUNT goes from who buys to who sells at once": of each TRADE its own. */
+    private static void turnsTradesOfMany() {
+        RecordClaims x = Check.with("holder a;holder b;holder c;holder d;paper p;paper q;");
+        x.money(1, 1, 9, 9, 9);
+        x.turn(0, 1, 12, 4000, 1);
+        x.trade(0, 1, 0, 1, 5, 9);
+        x.trade(1, 2, 1, 1, 6, 9);
+        x.trade(2, 3, 0, 1, 7, 9);
+        x.trade(3, 0, 0, 2, 8, 9);
+        x.trade(1, 3, 0, 1, 9, 9);
+        x.days(1);
+        long[] state = {2, 0, 2, 0, 2};
+        long[] purse = {-1, 1 - 5, -3, 3 + 5};
+        for (int t = 0; t < 5; t++) {
+            Check.due("TURNED " + t, x.told(t, 7), state[t]);
+        }
+        for (int h = 0; h < 4; h++) {
+            Check.due("MONEY of " + h, x.purse(h), purse[h]);
+        }
+    }
+
     /** "whose RECORD is in a later DAY, and by numbers behind it in this one, are DROPPED". */
     private static void turnsDropLaterOnes() {
         RecordClaims x = Check.with(TWO + "has a p 4;");
@@ -507,6 +534,25 @@ public final class DeedEdgeTest {
         Check.due("its RIGHTS too", x.has(0, 0), 1);
         Check.due("DROPPED for good", x.event(0, 5), 3);
         Check.due("DROPPED for good", x.issued(0, 1), 0);
+    }
+
+    /** RECORD counts, not EX, UNTIL or PAY. */
+    private static void dropsWhateverItsPay() {
+        for (int pay = 5; pay <= 9; pay++) {
+            RecordClaims x = Check.with(TWO + "has a p 4;");
+            x.money(0, 1, 1, 5, pay);
+            x.turn(0, 1, 11, 0, 5);
+            x.money(0, 1, 1, 5, pay);
+            x.gift(0, 11, 0, 5, 5, pay);
+            x.rights(0, 11, 0, pay, 2, 5, pay);
+            x.money(0, 1, 1, 4, pay);
+            x.money(1, 1, 1, 5, pay);
+            x.days(5);
+            int[] state = {1, 2, 3, 3, 3, 1, 1};
+            for (int e = 0; e < 7; e++) {
+                Check.due("EVENT " + e + " of PAY " + pay, x.event(e, 5), pay == 5 && state[e] == 1 ? 2 : state[e]);
+            }
+        }
     }
 
     /** What is told behind a TURN is to come all the same. */
@@ -648,6 +694,93 @@ public final class DeedEdgeTest {
         rightsRun(1, new int[] {3}, -1, 1);
         rightsRun(0, new int[] {1}, 0, 0);
         rightsRun(5, new int[] {4, 4, 4}, -4, 6);
+    }
+
+    /** "If R is below 0, MONEY is less by the worth of those that are wanting": of a purse that isn't 0. */
+    private static void wantingOnes() {
+        for (int worth : new int[] {0, 1, 999}) {
+            RecordClaims x = Check.with(TWO + "has a p 1;");
+            x.trade(1, 0, 0, 1, 70, 1);
+            x.trade(1, 0, 0, 5, 0, 9);
+            x.rights(0, 11, 500000 + worth, 1, 1, 1, 2);
+            x.choose(0, 0, 9, 9);
+            x.days(2);
+            Check.due("wanting", x.written(0, 0, 6), -5);
+            Check.due("none TAKEN", x.written(0, 0, 4), 0);
+            Check.due("none SOLD", x.written(0, 0, 5), 0);
+            Check.due("MONEY is less", x.purse(0), 70 - 5 * worth);
+            Check.due("ISSUED", x.issued(0, 1), -5 * worth);
+            Check.due("no SHARES", x.issued(0, 0), 0);
+            Check.due("all LAPSE", x.written(0, 1, 6), 6);
+        }
+    }
+
+    /** Of each HOLDER its own, of each EVENT its own. */
+    private static void ofManyWanting() {
+        RecordClaims x = Check.with("holder a;holder b;holder c;holder d;paper p;has a p 10;");
+        x.money(0, 1, 5, 5, 5);
+        x.rights(0, 11, 7, 1, 1, 1, 2);
+        x.trade(0, 2, 0, 3, 0, 9);
+        x.trade(0, 3, 0, 4, 0, 9);
+        x.days(2);
+        long[] wanting = {17, 0, -3, -4};
+        long[] money = {0, 0, -21, -28};
+        for (int h = 0; h < 4; h++) {
+            Check.due("wanting of " + h, x.written(1, h, 6), wanting[h]);
+            Check.due("MONEY of " + h, x.purse(h), money[h]);
+            Check.due("none of another EVENT", x.written(0, h, 6), 0);
+        }
+    }
+
+    /** Each DAY undone, and done again: nothing is lost of all that there can be. */
+    private static void undoesAllThereCanBe() {
+        RecordClaims x = Check.with(Full.book());
+        for (int day = 0; day < 14; day++) {
+            if (day < 5) {
+                Full.tell(x, day);
+            }
+            String was = Snapshot.of(x);
+            x.days(1);
+            String then = Snapshot.of(x);
+            x.days(3);
+            x.days(9);
+            x.undo();
+            x.undo();
+            Check.due("14: two are undone in " + day, Snapshot.of(x), then);
+            x.undo();
+            Check.due("14: all is undone in " + day, Snapshot.of(x), was);
+            x.days(1);
+            Check.due("14: done again in " + day, Snapshot.of(x), then);
+        }
+    }
+
+    /** HOLDERS 0 .. 9, PAPERS 0 .. 4, TRADES 0 .. 59, EVENTS 0 .. 7: all that there can be, in one DAY. */
+    private static void fullHouse() {
+        for (int last = 0; last < 4; last++) {
+            RecordClaims x = Check.with(Full.NAMES + "has a t 100000;has j t 100000;");
+            for (int e = 0; e < 7; e++) {
+                Check.due("EVENTS", x.rights(4, 11, 1002, 2, 1, 1, 2), e);
+            }
+            int event = last == 0 ? x.money(4, 3, 1, 1, 2) : last == 1 ? x.gift(4, 12, 5, 1, 1, 2)
+                    : last == 2 ? x.rights(4, 12, 1003, 2, 1, 1, 2) : x.turn(4, 3, 12, 3005, 1);
+            Check.due("the last EVENT", event, 7);
+            Check.yes("CHOOSES", x.choose(6, 9, 10, 20));
+            for (int t = 0; t < 60; t++) {
+                Check.due("TRADES", x.trade(8, 9, 4, 3, 10, 9), t);
+            }
+            x.days(2);
+            Check.due("CLAIMS", x.event(7, 6), last == 3 ? 0 : 60);
+            Check.due("CLAIMS", x.event(6, 6), 60);
+            Check.due("RIGHTS", x.written(6, 9, 4) + x.written(6, 9, 5) + x.written(6, 9, 6), 100000 - 180);
+            Check.due("RIGHTS", x.written(6, 8, 6), 180);
+            long[] shares = {10, 50000 - 60 + 10, 10, 10};
+            long[] money = {300000 - 540, -120, 0, 300000};
+            Check.due("SHARES", x.has(9, 4), last == 3 ? 10 : 100000 + shares[last]);
+            Check.due("MONEY", x.purse(9), 20 * 2 - 10 + money[last]);
+            Check.due("the other PAPER", x.has(9, 3), last == 3 ? 50000 : 0);
+            Check.due("TRADES", x.told(59, 3), last == 3 ? 1 : 3);
+            Check.due("TRADES", x.told(59, 4), last == 3 ? 10 - 9 - 2 : 10);
+        }
     }
 
     /** "UNTIL that DAY (that one, too)"; "PAID"; "in place of what it chose". */

@@ -19,9 +19,14 @@ public final class TextEdgeTest {
         emptyBook();
         sharesInPlace();
         bookInPlaceOfAll();
+        bookBehindBooks();
+        bookBehindAllThereCanBe();
+        namesOfBooksBefore();
         bookWithAFault();
         fullBook();
         theEnd();
+        whatCantStandThere();
+        byTextAsByCall();
         ofOnePlaceTheLeast();
         firstFromTheLeft();
         eleventhAndSixth();
@@ -279,6 +284,74 @@ public final class TextEdgeTest {
         }
     }
 
+    /** "in place of all there was": nothing of any BOOK before, good or not, nor of what was done, comes back later. */
+    private static void bookBehindBooks() {
+        String[] between = {"", "holder x;paper y;has x y 8;", "holder x;paper y;has x y 8;paper", "holder x;paper p;has x p 8;has x p 100001;"};
+        String bare = "holder al;holder bo;holder cy;paper p;paper q;";
+        for (String first : between) {
+            for (String second : between) {
+                RecordClaims x = Check.with(THREE);
+                Check.deeds(x, RICH);
+                Check.book(x, first);
+                Check.book(x, second);
+                Check.due("4: lines", Check.book(x, bare), 5);
+                RecordClaims y = Check.with(bare);
+                Check.due("4: no SHARES of those before", Snapshot.of(x), Snapshot.of(y));
+                for (String deed : RICH.replace("days 5", "days 1;days 1;days 1;days 1;days 1").split(";")) {
+                    Check.due("4: " + deed, Check.deeds(x, deed + ";"), Check.deeds(y, deed + ";"));
+                    Check.due("4: nothing of what was noted before, behind " + deed, Snapshot.of(x), Snapshot.of(y));
+                }
+            }
+        }
+    }
+
+    /** NAMES of BOOKS before are none of what must stand there. */
+    private static void namesOfBooksBefore() {
+        RecordClaims x = new RecordClaims();
+        for (int i = 0; i < 4; i++) {
+            Check.due("4: a BOOK of many", Check.book(x, Full.NAMES), 15);
+            Check.due("4: as many again", Check.book(x, Full.NAMES), 15);
+            Check.due("4: of few", Check.book(x, "holder k;holder l;paper u;"), 3);
+            if (i % 2 == 1) {
+                Check.due("4: and again", Check.book(x, "holder k;holder l;paper u;"), 3);
+            }
+            for (String deed : new String[] {"trade c k u 1 1;", "trade j k u 1 1;", "trade j j q 1 1;"}) {
+                Check.due("5: " + deed, Check.deeds(x, deed), -1);
+                Check.due("5: " + deed, x.fault(0) * 100 + x.fault(1), 206);
+            }
+            Check.due("5: a PAPER", Check.deeds(x, "trade k l q 1 1;"), -1);
+            Check.due("5: a PAPER", x.fault(0) * 100 + x.fault(1), 210);
+            Check.due("4: none known", Check.book(x, "has k u 1;"), -1);
+            Check.due("4: none known", x.fault(0) * 100 + x.fault(1), 204);
+            Check.due("4: one known", Check.book(x, "holder k;has c u 1;"), -1);
+            Check.due("4: one known", x.fault(0) * 100 + x.fault(1), 213);
+            Check.due("4: none twice", Check.book(x, "holder a;holder c;paper j;paper q;paper p;"), 5);
+            Check.due("4: of this one", x.look(0) * 10 + x.look(1), 23);
+        }
+    }
+
+    /** Of ten HOLDERS, five PAPERS, sixty TRADES, eight EVENTS nothing is left. */
+    private static void bookBehindAllThereCanBe() {
+        RecordClaims x = Check.with(Full.book());
+        for (int day = 0; day < 9; day++) {
+            if (day < 5) {
+                Full.tell(x, day);
+            }
+            x.days(1);
+        }
+        Check.due("4: a BOOK of no SHARES", Check.book(x, Full.NAMES), 15);
+        Check.due("4: and another", Check.book(x, Full.NAMES), 15);
+        RecordClaims y = Check.with(Full.NAMES);
+        Check.due("4: as a new one", Snapshot.of(x), Snapshot.of(y));
+        for (int day = 0; day < 5; day++) {
+            Full.tell(x, day);
+            Full.tell(y, day);
+            Check.due("4: as of a new one", Snapshot.of(x), Snapshot.of(y));
+            Check.due("4: a DAY", x.days(1), y.days(1));
+        }
+        Check.due("4: as of a new one", Snapshot.of(x), Snapshot.of(y));
+    }
+
     /** "NONE with a FAULT (all stays)": NAMES, SHARES, what can be undone. */
     private static void bookWithAFault() {
         String[] bad = {"holder zz;paper yy;has zz yy 1", "holder k;holder k;", "holder zz;paper yy;has zz yy 100001;", "paper a",
@@ -343,6 +416,104 @@ public final class TextEdgeTest {
                 deedsOf(each.substring(0, n) + " \n", -1, 1, n + 2);
             }
         }
+    }
+
+    /**
+     * "what can't stand there (at it; a WORD of more letters, an N of more digits; the end: its length)": at each place
+     * of each LINE and DEED. Behind "@" stands what must stand there: h a HOLDER, p a PAPER, n a new NAME, N, w the word, S the stop.
+     */
+    private static void whatCantStandThere() {
+        for (String line : new String[] {"holder@w cc@n ;@S", "paper@w cc@n ;@S", "has@w aa@h bb@p 7@N ;@S"}) {
+            eachPlace("holder aa;paper bb; ", line, true);
+        }
+        for (String deed : new String[] {"trade@w aa@h hh@h bb@p 5@N 6@N within@o 7@N ;@S", "money@w bb@p 4@N ex@w 1@N record@w 2@N pay@w 4@N ;@S",
+            "gift@w bb@p 2@N for@w 3@N cash@w 7@N ex@w 1@N record@w 2@N pay@w 3@N ;@S",
+            "rights@w bb@p 2@N for@w 1@N at@w 5@N worth@w 20@N until@w 3@N ex@w 2@N record@w 2@N pay@w 4@N ;@S",
+            "turn@w bb@p into@w kk@p 3@N for@w 2@N plus@w 5@N cash@w 11@N record@w 7@N ;@S", "choose@w 2@N aa@h 30@N 40@N ;@S",
+            "days@w 2@N ;@S"}) {
+            eachPlace("days 1;", deed, false);
+        }
+    }
+
+    private static void eachPlace(String ahead, String tokens, boolean isBook) {
+        String[] tokenKinds = tokens.split(" ");
+        StringBuilder text = new StringBuilder(ahead);
+        for (int i = 0; i < tokenKinds.length; i++) {
+            String[] each = tokenKinds[i].split("@");
+            StringBuilder rest = new StringBuilder();
+            for (int k = i + 1; k < tokenKinds.length; k++) {
+                rest.append(' ').append(tokenKinds[k].split("@")[0]);
+            }
+            for (String bad : new String[] {"zz", "aa", "bb", "ex", "abcdefg", "holders", "tradess", "5", "1234567890", "0000000001",
+                ";", "#", ",", "\0", "\t", "A", "\377", ""}) {
+                int fault = faultOf(bad, each[1].charAt(0));
+                boolean isEndOfAll = i == 0 && bad.isEmpty();
+                if (fault != 0 && !bad.equals(each[0]) && !isEndOfAll) {
+                    oneFault(text + bad + (bad.isEmpty() ? "" : rest), isBook, fault, text.length());
+                }
+            }
+            text.append(each[0]).append(' ');
+        }
+    }
+
+    private static int faultOf(String bad, char must) {
+        boolean isName = bad.equals("zz") || bad.equals("aa") || bad.equals("bb");
+        switch (must) {
+            case 'h':
+                return bad.equals("aa") ? 0 : isName ? 2 : 1;
+            case 'p':
+                return bad.equals("bb") ? 0 : isName ? 2 : 1;
+            case 'n':
+                return bad.equals("zz") ? 0 : isName ? 2 : 1;
+            case 'N':
+                return bad.equals("5") ? 0 : 1;
+            case 'o':
+                return bad.equals(";") ? 0 : 1;
+            case 'S':
+                return bad.equals(";") ? 0 : 1;
+            default:
+                return 1;
+        }
+    }
+
+    private static void oneFault(String text, boolean isBook, int fault, int place) {
+        RecordClaims x = Check.with("holder aa;holder hh;paper bb;paper kk;has aa bb 9;");
+        Check.due("'" + text + "'", isBook ? Check.book(x, text) : Check.deeds(x, text), -1);
+        Check.due("fault of '" + text + "'", x.fault(0), fault);
+        Check.due("place in '" + text + "'", x.fault(1), place);
+        Check.due("all stays", x.has(0, 0) * 10 + x.look(4), 90);
+    }
+
+    /** What a text tells is what the call tells. */
+    private static void byTextAsByCall() {
+        RecordClaims x = Check.with(THREE);
+        RecordClaims y = Check.with(THREE);
+        Check.due("trade", Check.deeds(x, "trade bo al p 10 50 within 3;trade cy al p 7 9;"), 2);
+        y.trade(1, 0, 0, 10, 50, 3);
+        y.trade(2, 0, 0, 7, 9, 2);
+        Check.due("trade", Snapshot.of(x), Snapshot.of(y));
+        Check.due("money", Check.deeds(x, "money p 4 ex 1 record 2 pay 4;"), 1);
+        y.money(0, 4, 1, 2, 4);
+        Check.due("money", Snapshot.of(x), Snapshot.of(y));
+        Check.due("gift", Check.deeds(x, "gift p 2 for 3 cash 7 ex 2 record 3 pay 5;"), 1);
+        y.gift(0, 23, 7, 2, 3, 5);
+        Check.due("gift", Snapshot.of(x), Snapshot.of(y));
+        Check.due("rights", Check.deeds(x, "rights p 3 for 2 at 5 worth 20 until 4 ex 2 record 3 pay 6;"), 1);
+        y.rights(0, 32, 5020, 4, 2, 3, 6);
+        Check.due("rights", Snapshot.of(x), Snapshot.of(y));
+        Check.due("turn", Check.deeds(x, "turn q into p 3 for 7 plus 6 cash 11 record 7;"), 1);
+        y.turn(1, 0, 37, 6011, 7);
+        Check.due("turn", Snapshot.of(x), Snapshot.of(y));
+        Check.due("choose", Check.deeds(x, "choose 2 al 4 5;choose 2 bo 999999999 0;choose 2 cy 0 999999999;"), 3);
+        y.choose(2, 0, 4, 5);
+        y.choose(2, 1, 999999999, 0);
+        y.choose(2, 2, 0, 999999999);
+        for (int day = 1; day <= 8; day++) {
+            Check.due("as by call", Snapshot.of(x), Snapshot.of(y));
+            Check.due("days", Check.deeds(x, "days 1;"), 1);
+            y.days(1);
+        }
+        Check.due("as by call", Snapshot.of(x), Snapshot.of(y));
     }
 
     /** "Of one place the least." */
