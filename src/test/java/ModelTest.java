@@ -22,9 +22,16 @@ public final class ModelTest {
                 break;
             }
         }
+        for (int i = 1; i <= 150 && !Check.isWrong(); i++) {
+            seed = i * 104729L;
+            run = "wide run " + i;
+            x = new RecordClaims();
+            m = new Model();
+            wideRun();
+        }
         // what is to be compared must have come about, too
         String[] met = {"trades settled", "trades turned", "claims", "claims that waited", "claims paid later", "rights taken",
-            "rights wanting", "events dropped", "texts with a fault", "texts without", "undone"};
+            "rights wanting", "events dropped", "texts with a fault", "texts without", "undone", "sixty trades", "eight events"};
         for (int i = 0; i < met.length; i++) {
             Check.yes("runs met " + met[i] + " (" + tally[i] + ")", tally[i] > 50);
         }
@@ -84,6 +91,103 @@ public final class ModelTest {
         }
         questions(60);
         everything();
+    }
+
+    /** All that there can be: ten HOLDERS, five PAPERS, up to sixty TRADES and eight EVENTS, TURNS from any PAPER into any. */
+    private static void wideRun() {
+        put(wideBook());
+        due("book", x.book(), m.book());
+        int late = any(3) == 0 ? 985 + any(8) : any(40);
+        for (int n = late; n > 0; n -= 99) {
+            due("days", x.days(Math.min(n, 99)), m.deed("days", Math.min(n, 99)));
+        }
+        for (int i = 0; i < 8; i++) {
+            wideEvent(late);
+        }
+        for (int round = 0; round < 9 && !Check.isWrong(); round++) {
+            for (int i = 0; i < 8; i++) {
+                int[] v = {any(10), any(10), any(5), 1 + any(any(4) == 0 ? 400 : 60), any(3000), 1 + any(any(2) == 0 ? 3 : 9)};
+                due("trade", x.trade(v[0], v[1], v[2], v[3], v[4], v[5]), m.deed("trade", v));
+            }
+            for (int i = 0; i < 12; i++) {
+                int[] v = {any(8), any(10), any(80), any(80)};
+                due("choose", x.choose(v[0], v[1], v[2], v[3]) ? 0 : -1, m.deed("choose", v));
+            }
+            wideQuestions();
+            int n = 1 + any(3);
+            due("days", x.days(n), m.deed("days", n));
+            everything();
+        }
+        tally[11] += m.look(2) == 60 ? 1 : 0;
+        tally[12] += m.look(3) == 8 ? 1 : 0;
+        for (int i = any(9); i > 0; i--) {
+            int kept = m.undo();
+            due("undo", x.undo(), kept);
+        }
+        everything();
+    }
+
+    /** Short NAMES, so that fifty has-LINES fit THE TAPE. */
+    private static String wideBook() {
+        StringBuilder text = new StringBuilder();
+        for (char c = 'a'; c < 'k'; c++) {
+            text.append("holder ").append(c).append(';');
+        }
+        for (char c = 'p'; c < 'u'; c++) {
+            text.append("paper ").append(c).append(';');
+        }
+        for (int i = 0; i < 36; i++) {
+            text.append("has ").append((char) ('a' + any(10))).append(' ').append((char) ('p' + any(5))).append(' ')
+                    .append(any(999)).append(';');
+        }
+        return text.toString();
+    }
+
+    private static void wideEvent(int today) {
+        int p = any(5);
+        int a = 1 + any(any(2) == 0 ? 2 : 9);
+        int b = 1 + any(9);
+        int price = any(1000);
+        int cash = any(1000);
+        int ex = Math.min(999, today + 1 + any(8));
+        int record = Math.min(999, ex + any(6));
+        int pay = Math.min(999, record + any(6));
+        int until = record + any(pay - record + 1);
+        switch (any(5)) {
+            case 0:
+                due("money", x.money(p, price, ex, record, pay), m.deed("money", p, price, ex, record, pay));
+                break;
+            case 1:
+                due("gift", x.gift(p, 10 * a + b, cash, ex, record, pay), m.deed("gift", p, a, b, cash, ex, record, pay));
+                break;
+            case 2:
+            case 3:
+                due("rights", x.rights(p, 10 * a + b, 1000 * price + cash, until, ex, record, pay),
+                        m.deed("rights", p, a, b, price, cash, until, ex, record, pay));
+                break;
+            default:
+                int into = any(5);
+                due("turn", x.turn(p, into, 10 * a + b, 1000 * price + cash, record),
+                        m.deed("turn", p, into, a, b, price, cash, record));
+        }
+    }
+
+    private static void wideQuestions() {
+        for (int p = 0; p < 5; p++) {
+            int within = 1 + any(9);
+            for (int what = 0; what < 3; what++) {
+                due("carries", x.carries(p, within, what), m.carries(p, within, what));
+            }
+        }
+        for (int i = 0; i < 4; i++) {
+            int h = any(10);
+            int p = any(5);
+            int t = any(60);
+            int far = any(any(3) == 0 ? 100 : 12);
+            due("ahead", x.ahead(h, p, far), m.ahead(h, p, far));
+            due("purseAhead", x.purseAhead(h, far), m.purseAhead(h, far));
+            due("waits", x.waits(t), m.waits(t));
+        }
     }
 
     private static void aTrade() {
